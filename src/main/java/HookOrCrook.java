@@ -485,7 +485,7 @@ public final class HookOrCrook {
         }
     }
 
-    /** What days, taking, hooks and rings change; rows of all BOUGHS and of all TENANTS in one array, to be copied at once. */
+    /** What days, taking, hooks and rings change; all rows are in one array, so that there are few objects and one copy. */
     private static final class State {
         private static final int STACKS = MOST_BOUGHS;
         private static final int REACHES = STACKS + MOST_TENANTS;
@@ -513,39 +513,39 @@ public final class HookOrCrook {
         }
 
         int deadFrom(int b) {
-            return isBough(b) ? cells[b] : LAST_DAY + 1;
+            return b >= 0 && b < MOST_BOUGHS ? cells[b] : LAST_DAY + 1;
         }
 
         void setDeadFrom(int b, int d) {
-            if (isBough(b)) {
+            if (b >= 0 && b < MOST_BOUGHS) {
                 cells[b] = d;
             }
         }
 
         boolean isGone(int b) {
-            return isBough(b) && (gone >> b & 1) == 1;
+            return b >= 0 && b < MOST_BOUGHS && (gone >> b & 1) == 1;
         }
 
         int stack(int i) {
-            return isTenant(i) ? cells[STACKS + i] : 0;
+            return i >= 0 && i < MOST_TENANTS ? cells[STACKS + i] : 0;
         }
 
         int reach(int i) {
-            return isTenant(i) ? cells[REACHES + i] : 0;
+            return i >= 0 && i < MOST_TENANTS ? cells[REACHES + i] : 0;
         }
 
         void setReach(int i, int r) {
-            if (isTenant(i)) {
+            if (i >= 0 && i < MOST_TENANTS) {
                 cells[REACHES + i] = r;
             }
         }
 
         int carried(int i) {
-            return isTenant(i) ? cells[CARRIED + i] : 0;
+            return i >= 0 && i < MOST_TENANTS ? cells[CARRIED + i] : 0;
         }
 
         void pick(int i, int b, int weight) {
-            if (isTenant(i) && isBough(b)) {
+            if (i >= 0 && i < MOST_TENANTS && b >= 0 && b < MOST_BOUGHS) {
                 gone |= 1 << b;
                 cells[STACKS + i] += weight;
                 cells[CARRIED + i] += weight;
@@ -553,7 +553,7 @@ public final class HookOrCrook {
         }
 
         void loseStack(int i) {
-            if (isTenant(i)) {
+            if (i >= 0 && i < MOST_TENANTS) {
                 cells[STACKS + i] = 0;
             }
         }
@@ -563,14 +563,6 @@ public final class HookOrCrook {
             for (int i = 0; i < MOST_TENANTS; i++) {
                 cells[CARRIED + i] = 0;
             }
-        }
-
-        private static boolean isBough(int b) {
-            return b >= 0 && b < MOST_BOUGHS;
-        }
-
-        private static boolean isTenant(int i) {
-            return i >= 0 && i < MOST_TENANTS;
         }
     }
 
@@ -625,7 +617,7 @@ public final class HookOrCrook {
 
     /** What a LAID TEXT tells and no day changes, and what that makes of a state. */
     private static final class Forest {
-        private static final int ASH = 0, OAK = 1, HIDDEN = 2, DRIFT = 3;
+        private static final int ASH = 0, HIDDEN = 2, DRIFT = 3;
         private static final int HIDDEN_FURTHER = 3;
 
         private final int[] kinds = new int[MOST_BOUGHS];
@@ -696,23 +688,23 @@ public final class HookOrCrook {
         }
 
         int kind(int b) {
-            return hasBough(b) ? kinds[b] : ASH;
+            return b >= 0 && b < kinds.length ? kinds[b] : ASH;
         }
 
         int height(int b) {
-            return hasBough(b) ? heights[b] : 0;
+            return b >= 0 && b < heights.length ? heights[b] : 0;
         }
 
         int weight(int b) {
-            return hasBough(b) ? weights[b] : 0;
+            return b >= 0 && b < weights.length ? weights[b] : 0;
         }
 
         int strength(int i) {
-            return hasTenant(i) ? strengths[i] : 0;
+            return i >= 0 && i < strengths.length ? strengths[i] : 0;
         }
 
         int hearth(int i) {
-            return hasTenant(i) ? hearths[i] : 0;
+            return i >= 0 && i < hearths.length ? hearths[i] : 0;
         }
 
         int weightOf(int set) {
@@ -738,6 +730,7 @@ public final class HookOrCrook {
                 case ASH: return height(b) <= state.reach(i);
                 case HIDDEN: return height(b) + HIDDEN_FURTHER <= state.reach(i);
                 case DRIFT: return true;
+                // An OAK one is not to be had by any hook.
                 default: return false;
             }
         }
@@ -903,7 +896,7 @@ public final class HookOrCrook {
         void find(State state) {
             int freeOfAll = 0;
             for (int i = 0; i < MOST_TENANTS; i++) {
-                free[i] = forest.strength(i) - state.carried(i);
+                free[i] = forest.hasTenant(i) ? forest.strength(i) - state.carried(i) : 0;
                 freeOfAll += free[i];
             }
             rest[MOST_BOUGHS] = 0;
@@ -912,7 +905,7 @@ public final class HookOrCrook {
                 rest[b] = rest[b + 1] + (takers[b] == 0 ? 0 : forest.weight(b));
             }
             most = -1;
-            deal(0, 0, freeOfAll);
+            deal(this, 0, 0, freeOfAll);
         }
 
         private int takersOf(State state, int b) {
@@ -926,28 +919,32 @@ public final class HookOrCrook {
         }
 
         /** Goes through the ways in their order, so that of several best ones the first is found first. */
-        private void deal(int b, int had, int freeOfAll) {
+        private static void deal(Dealing ways, int b, int had, int freeOfAll) {
             if (b < 0 || b >= MOST_BOUGHS) {
-                if (had > most) {
-                    most = had;
-                    System.arraycopy(owners, 0, bestOwners, 0, MOST_BOUGHS);
-                }
+                ways.keepIfBetter(had);
                 return;
             }
-            if (had + Math.min(rest[b], freeOfAll) <= most) {
+            if (had + Math.min(ways.rest[b], freeOfAll) <= ways.most) {
                 return;
             }
-            int weight = forest.weight(b);
+            int weight = ways.forest.weight(b);
             for (int i = 0; i < MOST_TENANTS; i++) {
-                if ((takers[b] >> i & 1) == 1 && weight <= free[i]) {
-                    free[i] -= weight;
-                    owners[b] = i;
-                    deal(b + 1, had + weight, freeOfAll - weight);
-                    free[i] += weight;
+                if ((ways.takers[b] >> i & 1) == 1 && weight <= ways.free[i]) {
+                    ways.free[i] -= weight;
+                    ways.owners[b] = i;
+                    deal(ways, b + 1, had + weight, freeOfAll - weight);
+                    ways.free[i] += weight;
                 }
             }
-            owners[b] = NONE;
-            deal(b + 1, had, freeOfAll);
+            ways.owners[b] = NONE;
+            deal(ways, b + 1, had, freeOfAll);
+        }
+
+        private void keepIfBetter(int had) {
+            if (had > most) {
+                most = had;
+                System.arraycopy(owners, 0, bestOwners, 0, MOST_BOUGHS);
+            }
         }
     }
 }
