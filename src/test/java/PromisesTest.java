@@ -1,10 +1,5 @@
 /** What the document promises, promise by promise; each answer is worked out by hand from its words. */
-public final class PromisesTest {
-    private static final int BAD = -1, NO = -2, FULL = -3, NONE = -4;
-    private static final int[] WILD = {-1, Integer.MIN_VALUE, Integer.MAX_VALUE, 1000};
-    private static int wrong = 0;
-    private static int promise = 0;
-
+public final class PromisesTest extends Answers {
     public static void main(String[] args) {
         constants();
         aNewObject();
@@ -35,38 +30,7 @@ public final class PromisesTest {
         keep();
         back();
         count();
-        System.out.println(wrong == 0 ? "all promises hold" : wrong + " answers are wrong");
-        if (wrong != 0) {
-            System.exit(1);
-        }
-    }
-
-    private static void due(String call, int got, int want) {
-        if (got != want) {
-            wrong++;
-            System.out.println("promise " + promise + ": " + call + " answered " + got + ", due is " + want);
-        }
-    }
-
-    private static void put(HookOrCrook x, String text) {
-        x.wipe();
-        for (int k = 0; k < text.length(); k++) {
-            due("write " + text.charAt(k), x.write(text.charAt(k)), k + 1);
-        }
-    }
-
-    private static HookOrCrook laid(String text) {
-        HookOrCrook x = new HookOrCrook();
-        put(x, text);
-        int boughs = text.length() - text.replace("b", "").length();
-        due("lay " + text, x.lay(), boughs);
-        return x;
-    }
-
-    private static void faultOf(String text, int want) {
-        HookOrCrook x = new HookOrCrook();
-        put(x, text);
-        due("fault of " + text, x.fault(), want);
+        finish("all promises hold");
     }
 
     private static void constants() {
@@ -77,7 +41,7 @@ public final class PromisesTest {
     }
 
     private static void aNewObject() {
-        promise = 1;
+        sentence("promise 1");
         HookOrCrook x = new HookOrCrook();
         int[] counts = {6, 3, 0, 8, 3, 6, 0, 0, 0, 0};
         for (int k = 0; k < counts.length; k++) {
@@ -102,7 +66,7 @@ public final class PromisesTest {
     }
 
     private static void write() {
-        promise = 2;
+        sentence("promise 2");
         HookOrCrook x = new HookOrCrook();
         due("write(31)", x.write(31), BAD);
         due("write(127)", x.write(127), BAD);
@@ -123,7 +87,7 @@ public final class PromisesTest {
     }
 
     private static void wipe() {
-        promise = 3;
+        sentence("promise 3");
         HookOrCrook x = new HookOrCrook();
         due("wipe", x.wipe(), 0);
         put(x, "b0,1,1,0;x");
@@ -137,7 +101,7 @@ public final class PromisesTest {
     }
 
     private static void fault() {
-        promise = 4;
+        sentence("promise 4");
         faultOf("", NONE);
         String[] good = {"b0,1,1,0;", "b3,20,20,60;", "b00,01,01,00;", "t1,1,1;", "t20,40,60;", "k1,1;", "k20,9;", "k01,09;",
             "f1;", "f30;", "f09;"};
@@ -169,7 +133,7 @@ public final class PromisesTest {
     }
 
     private static void lay() {
-        promise = 5;
+        sentence("promise 5");
         HookOrCrook x = new HookOrCrook();
         due("lay of nothing", x.lay(), NO);
         for (String text : new String[] {"b0,1,1,0;", "t1,1,1;", "k1,1;f1;", "b0,1,1,0;t1,1,1;x", "b0,1,1,0;t1,1,1"}) {
@@ -214,7 +178,7 @@ public final class PromisesTest {
     }
 
     private static void bough() {
-        promise = 6;
+        sentence("promise 6");
         HookOrCrook x = laid("b2,7,8,3;b0,1,1,0;t1,1,1;f2;");
         int[] first = {2, 7, 8, 3, 0, 0, 0};
         for (int what = 0; what < 7; what++) {
@@ -244,7 +208,7 @@ public final class PromisesTest {
     }
 
     private static void tenant() {
-        promise = 7;
+        sentence("promise 7");
         HookOrCrook x = laid("b3,1,4,0;b3,1,5,0;t11,12,9;t1,1,1;");
         int[] first = {11, 12, 9, 0, 0, 0};
         for (int what = 0; what < 6; what++) {
@@ -273,7 +237,7 @@ public final class PromisesTest {
     }
 
     private static void can() {
-        promise = 8;
+        sentence("promise 8");
         // ASH as high as he reaches, one higher; OAK; HIDDEN 3 below, 2 below; DRIFT; not DEAD.
         HookOrCrook x = laid("b0,7,1,0;b0,8,1,0;b1,1,1,0;b2,4,1,0;b2,5,1,0;b3,20,1,0;b0,1,1,1;b3,1,6,0;t7,5,9;f3;");
         int[] day0 = {1, 0, 0, 1, 0, 1, 0, 0};
@@ -308,7 +272,7 @@ public final class PromisesTest {
     }
 
     private static void take() {
-        promise = 9;
+        sentence("promise 9");
         HookOrCrook x = laid("b0,5,2,0;b3,5,3,0;b2,5,4,0;b0,5,5,0;b0,5,6,2;b0,5,7,4;t9,20,60;t8,20,60;k8,2;f2;");
         due("CAUGHT", x.take(0, 0), 0);
         due("gone all the same", x.bough(0, 6), 1);
@@ -341,7 +305,7 @@ public final class PromisesTest {
     }
 
     private static void pass() {
-        promise = 10;
+        sentence("promise 10");
         HookOrCrook x = new HookOrCrook();
         x.take(0, 0);
         due("pass(1)", x.pass(1), 1);
@@ -363,7 +327,7 @@ public final class PromisesTest {
     }
 
     private static void hook() {
-        promise = 11;
+        sentence("promise 11");
         HookOrCrook x = new HookOrCrook();
         due("hook(0, 20)", x.hook(0, 20), 6);
         due("hook(0, 1)", x.hook(0, 1), 20);
@@ -383,7 +347,7 @@ public final class PromisesTest {
     }
 
     private static void ring() {
-        promise = 12;
+        sentence("promise 12");
         HookOrCrook x = laid("b1,9,3,60;b0,1,1,0;b0,1,1,4;t1,9,9;f3;");
         due("DEAD", x.ring(1), NO);
         x.pass(2);
@@ -406,7 +370,7 @@ public final class PromisesTest {
     }
 
     private static void undo() {
-        promise = 13;
+        sentence("promise 13");
         HookOrCrook x = new HookOrCrook();
         due("nothing is UNDONE", x.undo(), NO);
         x.take(0, 0);
@@ -445,7 +409,7 @@ public final class PromisesTest {
     }
 
     private static void warmBy() {
-        promise = 14;
+        sentence("promise 14");
         HookOrCrook x = new HookOrCrook();
         int[] want = {0, 0, 0, 0, 0, 0, 4, 4, 5, 5, 5};
         for (int d = 0; d < want.length; d++) {
@@ -478,7 +442,7 @@ public final class PromisesTest {
     }
 
     private static void allWarm() {
-        promise = 15;
+        sentence("promise 15");
         due("allWarm", new HookOrCrook().allWarm(), NONE);
         HookOrCrook x = laid("b3,1,2,5;b1,1,2,60;t1,2,2;t1,2,2;f30;");
         due("on DAY 90", x.allWarm(), 90);
@@ -509,7 +473,7 @@ public final class PromisesTest {
     }
 
     private static void share() {
-        promise = 16;
+        sentence("promise 16");
         HookOrCrook x = new HookOrCrook();
         due("share(-1)", x.share(-1), 4);
         due("share(0)", x.share(0), 0);
@@ -555,7 +519,7 @@ public final class PromisesTest {
     }
 
     private static void leastHook() {
-        promise = 17;
+        sentence("promise 17");
         // All have FALLEN on DAY 30: 0 has one then, the others are left.
         HookOrCrook x = laid("b0,7,5,0;b0,12,5,0;b2,17,5,0;t3,5,5;t1,20,10;f30;");
         due("0", x.leastHook(0), 1);
@@ -594,7 +558,7 @@ public final class PromisesTest {
     }
 
     private static void pole() {
-        promise = 18;
+        sentence("promise 18");
         due("none", new HookOrCrook().pole(), NONE);
         due("all are WARM now", warmed().pole(), 1);
         due("once FALLEN", laid("b0,12,5,0;b0,7,5,0;t7,40,3;t15,20,5;f30;").pole(), 1);
@@ -617,7 +581,7 @@ public final class PromisesTest {
     }
 
     private static void firstDay() {
-        promise = 19;
+        sentence("promise 19");
         HookOrCrook x = laid("b0,5,2,7;b0,6,2,7;b1,1,2,7;b2,2,2,7;b2,3,2,7;b3,20,2,7;b3,1,5,0;t5,4,9;f20;");
         int[] want = {7, 27, 27, 7, 27, 7, NONE};
         for (int b = 0; b < want.length; b++) {
@@ -649,7 +613,7 @@ public final class PromisesTest {
     }
 
     private static void sticks() {
-        promise = 20;
+        sentence("promise 20");
         HookOrCrook x = laid("b3,1,2,0;b3,1,3,0;b3,1,5,0;b3,1,20,0;b3,1,5,0;b3,1,7,0;b3,1,20,0;b3,1,20,0;t1,40,60;t1,40,60;");
         due("sticks(0, 0)", x.sticks(0, 0), 1);
         due("sticks(0, 1)", x.sticks(0, 1), 0);
@@ -682,7 +646,7 @@ public final class PromisesTest {
     }
 
     private static void whose() {
-        promise = 21;
+        sentence("promise 21");
         HookOrCrook x = laid("b0,5,6,3;b1,5,6,3;b2,5,6,3;b3,5,6,3;t5,6,9;t8,9,9;t20,5,9;f4;");
         int[] day2 = {0, 0, 0, 0};
         int[] day3 = {3, 0, 2, 3};
@@ -714,7 +678,7 @@ public final class PromisesTest {
     }
 
     private static void sure() {
-        promise = 22;
+        sentence("promise 22");
         HookOrCrook x = laid("b0,1,1,0;t9,9,9;t8,9,9;k8,3;");
         int[][] rows = {{0, 0, 1, 1}, {0, 10, 1, 1}, {1, 0, 1, 1}, {1, 10, 0, 1}, {8, 10, 0, 1}, {1, 5, 1, 2}, {2, 5, 1, 4},
             {8, 1, 43046721, 100000000}, {8, 9, 1, 100000000}, {3, 4, 27, 125}, {2, 8, 1, 25}, {8, 2, 65536, 390625}, {1, 3, 7, 10}};
@@ -739,7 +703,7 @@ public final class PromisesTest {
     }
 
     private static void waste() {
-        promise = 23;
+        sentence("promise 23");
         HookOrCrook x = laid("b0,20,9,60;b3,1,10,0;b1,1,20,5;b0,1,3,0;t1,9,9;t1,5,9;f30;");
         due("too heavy for all", x.waste(), 30);
         x.take(0, 3);
@@ -761,7 +725,7 @@ public final class PromisesTest {
     }
 
     private static void needs() {
-        promise = 24;
+        sentence("promise 24");
         HookOrCrook x = laid("b3,1,4,0;b3,1,7,0;t1,40,9;t1,40,5;");
         due("needs", x.needs(), 14);
         x.take(0, 0);
@@ -772,7 +736,7 @@ public final class PromisesTest {
     }
 
     private static void storm() {
-        promise = 25;
+        sentence("promise 25");
         // DRAWS by 0: 0, 20743, 5149, 18739; by 8, cut: 0, 2592, 643, 2342: DAYS 0 and 1 fell one.
         HookOrCrook x = laid("b1,1,5,60;b1,1,7,60;t1,10,12;f30;");
         due("one falls", x.storm(0, 1, 1), 5);
@@ -826,7 +790,7 @@ public final class PromisesTest {
     }
 
     private static void keep() {
-        promise = 26;
+        sentence("promise 26");
         HookOrCrook x = new HookOrCrook();
         due("keep", x.keep(), 1);
         due("keep", x.keep(), 2);
@@ -844,7 +808,7 @@ public final class PromisesTest {
     }
 
     private static void back() {
-        promise = 27;
+        sentence("promise 27");
         HookOrCrook x = new HookOrCrook();
         due("back", x.back(), NO);
         x.take(0, 0);
@@ -877,7 +841,7 @@ public final class PromisesTest {
     }
 
     private static void count() {
-        promise = 28;
+        sentence("promise 28");
         HookOrCrook x = laid("b0,1,1,0;b3,1,1,0;b3,1,1,0;t1,9,9;t1,9,9;k19,8;f7;");
         x.pass(4);
         x.take(0, 0);
