@@ -1,3 +1,6 @@
+import java.util.ArrayList;
+import java.util.List;
+
 /** The bounds that "Terms" names of what is LAID and of DAYS, TAKING, KEEPERS, hooks, bark and what is UNDONE. */
 public final class DaysBoundsTest extends Answers {
     private static final int ASH = 0, OAK = 1, HIDDEN = 2, DRIFT = 3;
@@ -6,6 +9,9 @@ public final class DaysBoundsTest extends Answers {
         ofABoughAndATenantAtLeast();
         withoutFault();
         atFirst();
+        laidAnew();
+        whatWasLaidAhead();
+        fiveHundredAndTwelveCalls();
         daysAre0To99();
         oneTo30DaysGoBy();
         whatIsDead();
@@ -104,6 +110,92 @@ public final class DaysBoundsTest extends Answers {
         for (int k = 0; k < 18; k++) {
             due("tenant(" + k / 6 + ", " + k % 6 + ")", y.tenant(k / 6, k % 6), x.tenant(k / 6, k % 6));
         }
+    }
+
+    private static void laidAnew() {
+        sentence("LAID: DAY 0, nothing gone, no STACKS, nothing UNDONE, KEPT (THE TEXT stays)");
+        HookOrCrook x = laid("b3,1,5,0;b3,1,4,0;b0,1,3,50;t7,8,9;t7,8,9;");
+        x.pass(9);
+        x.take(0, 0);
+        x.take(1, 1);
+        x.hook(0, 3);
+        x.ring(2);
+        x.keep();
+        due("lay", x.lay(), 3);
+        due("day", x.count(2), 0);
+        due("gone", x.count(6), 0);
+        due("what can be UNDONE", x.count(7), 0);
+        due("KEPT", x.count(8), 0);
+        due("letters", x.count(9), 42);
+        due("undo", x.undo(), NO);
+        due("back", x.back(), NO);
+        for (int b = 0; b < 3; b++) {
+            due("gone", x.bough(b, 6), 0);
+        }
+        due("RINGED no more", x.bough(2, 3), 50);
+        for (int i = 0; i < 2; i++) {
+            due("reach", x.tenant(i, 0), 7);
+            due("stack", x.tenant(i, 3), 0);
+            due("carried", x.tenant(i, 4), 0);
+        }
+    }
+
+    private static void whatWasLaidAhead() {
+        sentence("what was LAID ahead counts no more");
+        String small = "b0,5,9,0;b1,3,2,1;t5,8,9;";
+        HookOrCrook x = laid("b3,1,20,0;".repeat(8) + "t20,40,60;".repeat(4) + "k1,1;f30;");
+        for (int b = 0; b < 8; b++) {
+            x.take(b / 2, b);
+        }
+        x.keep();
+        put(x, small);
+        due("lay", x.lay(), 2);
+        due("WASTE", x.waste(), 9);
+        due("NEEDS", x.needs(), 9);
+        due("SHARE", x.share(-1), 0);
+        due("STICKS", x.sticks(20, 0), 0);
+        due("WHOSE hook", x.whose(1, 99), 1);
+        due("A STORM", x.storm(1, 30, 1), 2);
+        HookOrCrook y = laid(small);
+        List<Integer> seen = new ArrayList<>();
+        List<Integer> due = new ArrayList<>();
+        ask(x, seen);
+        ask(y, due);
+        holds("as in a new one: " + seen + " for " + due, seen.equals(due));
+    }
+
+    private static void ask(HookOrCrook x, List<Integer> answers) {
+        for (int what = 0; what <= 9; what++) {
+            answers.add(x.count(what));
+        }
+        for (int b = 0; b < 8; b++) {
+            answers.add(x.bough(b, 6));
+            answers.add(x.share(b));
+            answers.add(x.whose(b, 0));
+        }
+        for (int i = 0; i < 4; i++) {
+            answers.add(x.tenant(i, 3));
+            answers.add(x.can(i, 0));
+            answers.add(x.leastHook(i));
+            answers.add(x.firstDay(i, 1));
+        }
+        for (int z = 0; z < 30; z++) {
+            answers.add(x.storm(z, 30, 0));
+            answers.add(x.storm(z, 30, 1));
+        }
+        answers.add(x.warmBy(99));
+        answers.add(x.allWarm());
+        answers.add(x.pole());
+    }
+
+    private static void fiveHundredAndTwelveCalls() {
+        sentence("An object is used for at most 512 calls");
+        HookOrCrook x = new HookOrCrook();
+        for (int call = 1; call <= 510; call++) {
+            due("hook", x.hook(0, call % 20 + 1), call == 1 ? 6 : (call - 1) % 20 + 1);
+        }
+        due("the 511th", x.undo(), 7);
+        due("the 512th", x.tenant(0, 0), 509 % 20 + 1);
     }
 
     private static void daysAre0To99() {

@@ -24,6 +24,7 @@ public final class LanguageTest {
 
     public static void main(String[] args) throws IOException {
         face();
+        holds(HookOrCrook.class.getDeclaredClasses().length < 12, "at most some twelve classes");
         for (Class<?> inner : HookOrCrook.class.getDeclaredClasses()) {
             holds(Modifier.isStatic(inner.getModifiers()), inner + " is static");
             statics(inner);
@@ -73,9 +74,12 @@ public final class LanguageTest {
     }
 
     private static void statics(Class<?> c) {
+        int held = 0;
         for (Field f : c.getDeclaredFields()) {
             holds(!Modifier.isStatic(f.getModifiers()) || Modifier.isFinal(f.getModifiers()), f + " is final");
+            held += Modifier.isStatic(f.getModifiers()) ? 0 : 1;
         }
+        holds(held <= 20, c + " has some twenty fields");
         for (Method m : c.getDeclaredMethods()) {
             holds(m.getParameterCount() <= 7, m + " takes at most seven");
         }

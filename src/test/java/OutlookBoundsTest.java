@@ -225,6 +225,10 @@ public final class OutlookBoundsTest extends Answers {
         sharesOf(y, 4, NONE, NONE, 0);
         y.pass(1);
         sharesOf(y, 9, NONE, 0, 0);
+        // 4 are left of 9: each of the others alone, not both.
+        HookOrCrook z = laid("b3,1,5,0;b3,1,2,0;b3,1,3,0;t1,9,9;");
+        z.take(0, 0);
+        sharesOf(z, 3, NONE, NONE, 0);
     }
 
     private static void shareOfSeveralTheFirst() {

@@ -91,7 +91,7 @@ public final class RandomRunsTest {
         return text.toString();
     }
 
-    /** Most often within, now and then just beyond or far away. */
+    /** Most often within, often on the bounds, now and then just beyond or far away. */
     private static int about(Random random, int least, int most) {
         int way = random.nextInt(60);
         if (way == 0) {
@@ -102,6 +102,9 @@ public final class RandomRunsTest {
         }
         if (way == 2) {
             return random.nextInt();
+        }
+        if (way < 8) {
+            return way % 2 == 0 ? least : most;
         }
         return least + random.nextInt(most - least + 1);
     }
