@@ -95,5 +95,15 @@ public final class LanguageTest {
         holds(!bare.contains("Exact"), "none that ends in Exact");
         holds(!bare.contains("while"), "every loop is counted");
         holds(source.chars().allMatch(c -> c == '\n' || c >= 32 && c < 127), "plain letters");
+        makes(bare);
+    }
+
+    /** What is made is made by a field's initialiser, or is a row of States in the one constructor that makes such. */
+    private static void makes(String bare) {
+        for (String line : bare.split("\n")) {
+            boolean ofAField = line.matches(" +(private )?final \\S+ \\w+ = new [^;]*;");
+            boolean ofThePile = line.matches(" +states(\\[k\\])? = new State[^;]*;");
+            holds(!line.matches(".*\\bnew\\b.*") || ofAField || ofThePile, "no call makes an object:" + line);
+        }
     }
 }
